@@ -50,47 +50,19 @@ public final class ExactFolds {
     }
 
     public int add(int fold, int time, long v) {
-        Fold f = foldNumbered(fold);
-        if (f == null) {
-            return NO_SUCH_FOLD;
-        }
-        if (f.kind == REAL) {
-            return NOT_WITH_THIS;
-        }
-        return addRow(f, time, v);
+        return addRow(fold, false, time, v);
     }
 
     public int addReal(int fold, int time, long bits) {
-        Fold f = foldNumbered(fold);
-        if (f == null) {
-            return NO_SUCH_FOLD;
-        }
-        if (f.kind != REAL) {
-            return NOT_WITH_THIS;
-        }
-        return addRow(f, time, withOneZero(bits));
+        return addRow(fold, true, time, withOneZero(bits));
     }
 
     public int remove(int fold, int time, long v) {
-        Fold f = foldNumbered(fold);
-        if (f == null) {
-            return NO_SUCH_FOLD;
-        }
-        if (f.kind == REAL) {
-            return NOT_WITH_THIS;
-        }
-        return removeRow(f, time, v);
+        return removeRow(fold, false, time, v);
     }
 
     public int removeReal(int fold, int time, long bits) {
-        Fold f = foldNumbered(fold);
-        if (f == null) {
-            return NO_SUCH_FOLD;
-        }
-        if (f.kind != REAL) {
-            return NOT_WITH_THIS;
-        }
-        return removeRow(f, time, withOneZero(bits));
+        return removeRow(fold, true, time, withOneZero(bits));
     }
 
     public int merge(int a, int b) {
@@ -270,7 +242,14 @@ public final class ExactFolds {
         return f != null && f.kind == kind ? f : null;
     }
 
-    private static int addRow(Fold f, int time, long value) {
+    private int addRow(int number, boolean real, int time, long value) {
+        Fold f = foldNumbered(number);
+        if (f == null) {
+            return NO_SUCH_FOLD;
+        }
+        if ((f.kind == REAL) != real) {
+            return NOT_WITH_THIS;
+        }
         if (time < 0 || time > LAST_TIME || !isValueOf(f.kind, value)) {
             return OUT_OF_BOUNDS;
         }
@@ -281,9 +260,13 @@ public final class ExactFolds {
         return f.size;
     }
 
-    private static int removeRow(Fold f, int time, long value) {
+    private int removeRow(int number, boolean real, int time, long value) {
+        Fold f = foldNumbered(number);
+        if (f == null) {
+            return NO_SUCH_FOLD;
+        }
         int place = f.placeOf(time, value);
-        if (!f.isRow(place, time, value)) {
+        if ((f.kind == REAL) != real || !f.isRow(place, time, value)) {
             return NOT_WITH_THIS;
         }
         f.takeOut(place);

@@ -51,6 +51,11 @@ public final class FaceTest {
                 due.answer("private " + m.getName() + " bears a public name", openNames.contains(m.getName()), false);
             }
         }
+        for (Class<?> inside : ExactFolds.class.getDeclaredClasses()) {
+            for (Method m : inside.getDeclaredMethods()) {
+                due.answer(inside + " " + m.getName() + " bears a public name", openNames.contains(m.getName()), false);
+            }
+        }
         due.answer("face " + got + " against " + want, got.equals(want), true);
     }
 

@@ -76,6 +76,8 @@ public final class FoldsAndRowsTest {
             DUE.answer("65th", x.add(0, 0, 0), -4);
             DUE.answer("65th, bad time", x.add(0, -1, 0), -2);
             DUE.answer("rows", x.rows(0), 64);
+            DUE.answer("behind the last of 64", x.remove(0, 1000000, 3), -3);
+            DUE.answer("64 with themselves", x.same(0, 0), true);
             DUE.answer("room again", x.remove(0, 69, 1), 63);
             DUE.answer("room again", x.add(0, 0, 0), 64);
         }
@@ -274,6 +276,19 @@ public final class FoldsAndRowsTest {
         x.remove(1, 1, -2);
         x.add(1, 2, 2);
         DUE.answer("another time", x.same(0, 1), false);
+        x.remove(1, 2, 2);
+        x.add(1, 1, 2);
+        x.add(0, 0, 6);
+        x.add(1, 0, 5);
+        DUE.answer("another first row", x.same(0, 1), false);
+        x.add(0, 0, 5);
+        x.add(1, 0, 6);
+        x.add(0, 9, 5);
+        x.add(1, 9, 6);
+        DUE.answer("another last row", x.same(0, 1), false);
+        x.remove(0, 9, 5);
+        x.remove(1, 9, 6);
+        DUE.answer("rows that went do not count", x.same(0, 1), true);
         x.addReal(3, 0, MINUS_ZERO);
         x.addReal(4, 0, 0);
         DUE.answer("zeros", x.same(3, 4), true);

@@ -13,6 +13,7 @@ public final class OwnFoldTest {
         checkBounds();
         checkOrder();
         checkOfReachedAlone();
+        checkOfEachValue();
         checkReachesFar();
         joinedWays();
         joinedHalves();
@@ -192,6 +193,26 @@ public final class OwnFoldTest {
         checkIs(x, 1, 1, -3, -3);
         x.join(1, 1, 1);
         checkIs(x, 2, 1, 0, 0);
+    }
+
+    private static void checkOfEachValue() {
+        for (int v = 0; v < 4; v++) {
+            ExactFolds x = new ExactFolds();
+            x.start(1);
+            x.join(1, 1, 1);
+            x.join(1, 3, 3);
+            for (int any = 0; any < 4; any++) {
+                x.step(1, any, 1);
+                x.step(3, any, 3);
+            }
+            checkIs(x, 0, -3, -3, -3);
+            // 3, which alone is wrong, is reached through v alone.
+            x.step(1, v, 3);
+            checkIs(x, 1, 3, -3, -3);
+            x.join(3, 1, 3);
+            x.join(3, 3, 3);
+            checkIs(x, 0, -3, -3, -3);
+        }
     }
 
     private static void checkReachesFar() {

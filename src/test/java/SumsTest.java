@@ -159,6 +159,15 @@ public final class SumsTest {
         x.addReal(1, 0, Double.doubleToLongBits(2.5));
         DUE.answer("real twice", x.real(1), Double.doubleToLongBits(2.5));
         DUE.answer("real twice", x.real(1), Double.doubleToLongBits(2.5));
+        x.addReal(1, 0, 5);
+        x.removeReal(1, 0, Double.doubleToLongBits(2.5));
+        DUE.answer("nothing stays of an earlier sum", x.real(1), 5);
+        x.removeReal(1, 0, 5);
+        DUE.answer("nothing stays of an earlier sum", x.real(1), 0);
+        x.addReal(1, 0, Double.doubleToLongBits(-Double.MAX_VALUE));
+        DUE.answer("a sum below 0", x.real(1), Double.doubleToLongBits(-Double.MAX_VALUE));
+        x.removeReal(1, 0, Double.doubleToLongBits(-Double.MAX_VALUE));
+        DUE.answer("nothing stays of a sum below 0", x.real(1), 0);
     }
 
     private static void realAgainstBigDecimals() {

@@ -75,6 +75,13 @@ public final class ValuesTest {
             x.add(3, i, -i);
         }
         DUE.answer("64 rows", x.unlike(3), 63);
+        DUE.answer("rank in 64 rows", x.rank(3, 0), 61);
+        DUE.answer("least of 64", x.least(3, 0), -61);
+        DUE.answer("greatest of 64", x.least(3, 1), 5);
+        x.remove(3, 61, -61);
+        DUE.answer("what went is not counted", x.unlike(3), 62);
+        DUE.answer("what went is not below", x.rank(3, 0), 60);
+        DUE.answer("what went is not the least", x.least(3, 0), -60);
     }
 
     private static void item() {
