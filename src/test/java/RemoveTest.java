@@ -7,6 +7,7 @@ public final class RemoveTest {
         DUE.sentence("5 remove: one alone, of several alike", RemoveTest::oneOfAlike);
         DUE.sentence("5 remove: the last one goes", RemoveTest::lastGoes);
         DUE.sentence("5 remove: of a full fold, each", RemoveTest::eachOfFull);
+        DUE.sentence("5 remove: the least and greatest VALUES and TIMES", RemoveTest::ends);
         DUE.sentence("5 remove: -1", RemoveTest::noFold);
         DUE.sentence("5 remove: -3 it is REAL", RemoveTest::ofReal);
         DUE.sentence("5 remove: -3 has no such ROW, of this TIME", RemoveTest::noSuchTime);
@@ -71,6 +72,23 @@ public final class RemoveTest {
                 DUE.answer("time " + time, x.remove(0, time, time % 4), 63 - i);
             }
         }
+    }
+
+    private static void ends() {
+        long[][] ends = {{Long.MIN_VALUE, Long.MAX_VALUE}, {}, {-1000000, 1000000},
+            {-100000000000000000L, 100000000000000000L}, {0, 3}};
+        for (int kind : Made.NOT_REAL) {
+            ExactFolds x = Made.with(kind);
+            x.add(0, 0, ends[kind][0]);
+            x.add(0, 1000000, ends[kind][1]);
+            DUE.answer("the greatest at 0", x.remove(0, 0, ends[kind][1]), -3);
+            DUE.answer("the least at 1000000", x.remove(0, 1000000, ends[kind][0]), -3);
+            DUE.answer("the greatest", x.remove(0, 1000000, ends[kind][1]), 1);
+            DUE.answer("the least", x.remove(0, 0, ends[kind][0]), 0);
+        }
+        ExactFolds y = Made.with(Made.WIDE);
+        y.add(0, 0, 0);
+        DUE.answer("the bits of -0.0 are not 0 of a WIDE fold", y.remove(0, 0, Made.MINUS_ZERO), -3);
     }
 
     private static void noFold() {
